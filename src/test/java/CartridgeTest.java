@@ -37,6 +37,8 @@ public final class CartridgeTest {
         Check.equal("ten bits: 0x400 is 0", x.read(0), x.read(0x400));
         Check.equal("ten bits: 0x3FFF is 1023", 9, x.read(0x3FFF));
         Check.equal("bank 1 is another", 0, x.read(0x43FF));
+        x.rom(1, 0, 1, 33);
+        Check.equal("HIGH begins at 0x4000", 33, x.read(0x4000));
         Check.equal("bank 7", 1, x.rom(7, 0, 1, 1));
         Check.equal("bank 0 unchanged", 0, x.read(0));
     }
@@ -195,6 +197,26 @@ public final class CartridgeTest {
         Check.equal("DOT began at 0", 0, x.read(0xFF44));
         x.run(1);
         Check.equal("DOT is 114", 1, x.read(0xFF44));
+        Check.equal("a SIGNAL is now", 0xE3, x.read(0xFF0F));
+        Check.put(x, 0xFF45, 1);
+        x.run(1);
+        x.insert(0);
+        Check.equal("LY is 0 again", 0, x.read(0xFF44));
+        Check.put(x, 0xFF41, 0x40);
+        x.run(1);
+        Check.equal("the SIGNAL from before RESET is forgotten", 0xE3, x.read(0xFF0F));
+        resetForgetsInterrupts();
+    }
+
+    private static void resetForgetsInterrupts() {
+        TileConsole x = Check.program(0xFB, 0x00);
+        x.set(Check.SP, 0xC300);
+        Check.put(x, 0xFFFF, 1);
+        Check.put(x, 0xFF0F, 1);
+        x.run(3);
+        Check.equal("one was taken", 1, x.count(Check.TAKEN));
+        x.insert(0);
+        Check.equal("none since RESET", 0, x.count(Check.TAKEN));
     }
 
     private static void ramAndKeysStay() {
@@ -276,6 +298,10 @@ public final class CartridgeTest {
         Check.equal("ONE: not ON reads 0xFF", 255, x.read(0xA010));
         Check.put(x, 0x0000, 10);
         Check.equal("ONE: a write was lost", 12, x.read(0xA010));
+        x.insert(1);
+        banks("ONE, RESET", x, 1, 0, 0);
+        Check.put(x, 0x4000, 3);
+        banks("ONE, RESET: MODE is 0", x, 1, 0, 0);
     }
 
     private static void two() {

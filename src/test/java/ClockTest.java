@@ -116,6 +116,9 @@ public final class ClockTest {
         Check.equal("TMA again", 0xF0, x.read(0xFF05));
         Check.equal("IF again", 0xE4, x.read(IF));
         Check.equal("TMA stays", 0xF0, x.read(0xFF06));
+        Check.put(x, IF, 0x19);
+        pass(x, 64);
+        Check.equal("IF's other bits stay", 0xFD, x.read(IF));
     }
 
     private static void timerOff() {
@@ -149,6 +152,7 @@ public final class ClockTest {
         Check.equal("IF has bit 0", 0xE1, x.read(IF));
         Check.equal("STATE 1", 0x81, x.read(STAT) & 0x83);
         Check.put(x, IF, 0);
+        otherBitsStay();
         pass(x, 10 * 114 - 1);
         Check.equal("LY 153", 153, x.read(LY));
         Check.equal("STATE 1 at the end", 0x81, x.read(STAT) & 0x83);
@@ -156,6 +160,21 @@ public final class ClockTest {
         Check.equal("LY 0 again", 0, x.read(LY));
         Check.equal("STATE 2 again", 0x82, x.read(STAT) & 0x83);
         Check.equal("no IF more", 0xE0, x.read(IF));
+    }
+
+    private static void otherBitsStay() {
+        TileConsole x = idle();
+        Check.put(x, IF, 0x1C);
+        Check.put(x, STAT, 0x10);
+        pass(x, 144 * 114 - 1);
+        Check.equal("IF before", 0xFC, x.read(IF));
+        pass(x, 1);
+        Check.equal("FRAME and STATE", 0xFF, x.read(IF));
+        TileConsole y = idle();
+        Check.put(y, IF, 0x08);
+        Check.put(y, STAT, 0x20);
+        pass(y, 1);
+        Check.equal("STATE alone", 0xEA, y.read(IF));
     }
 
     private static void states() {

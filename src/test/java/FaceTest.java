@@ -24,8 +24,9 @@ public final class FaceTest {
 
     public static void main(String[] args) {
         faceIsTheDocuments();
+        insideKeepsToTheRules();
         newObject();
-        resetAgain();
+        withoutCartridge();
         setAnswersWhatWas();
         setKeepsLowestBits();
         wrongRegisters();
@@ -47,6 +48,31 @@ public final class FaceTest {
         Check.isTrue("public constructor", Modifier.isPublic(made[0].getModifiers()) && made[0].getParameterCount() == 0);
         for (Field f : TileConsole.class.getDeclaredFields()) {
             Check.isTrue("field " + f.getName() + " is private", Modifier.isPrivate(f.getModifiers()));
+        }
+    }
+
+    // Rules 1 and 5 of LANGUAGE.md, as far as the compiled classes show them.
+    private static void insideKeepsToTheRules() {
+        for (Class<?> inside : TileConsole.class.getDeclaredClasses()) {
+            int kind = inside.getModifiers();
+            Check.isTrue(inside + " is static", Modifier.isStatic(kind));
+            Check.isTrue(inside + " is not to be seen", !Modifier.isPublic(kind) && !Modifier.isProtected(kind));
+            ownMembers(inside);
+        }
+        ownMembers(TileConsole.class);
+    }
+
+    private static void ownMembers(Class<?> c) {
+        for (Field f : c.getDeclaredFields()) {
+            boolean isStatic = Modifier.isStatic(f.getModifiers());
+            Check.isTrue(f + " is final if static", !isStatic || Modifier.isFinal(f.getModifiers()));
+        }
+        for (Method m : c.getDeclaredMethods()) {
+            boolean faces = c == TileConsole.class && Modifier.isPublic(m.getModifiers());
+            for (String line : FACE) {
+                String name = line.substring(line.indexOf(' ') + 1, line.indexOf('('));
+                Check.isTrue(m + " has a name of its own", faces || !name.equals(m.getName()));
+            }
         }
     }
 
@@ -92,7 +118,7 @@ public final class FaceTest {
     }
 
     // Without a cartridge the addresses work all the same, but for RAM and the controllers.
-    private static void resetAgain() {
+    private static void withoutCartridge() {
         TileConsole x = new TileConsole();
         x.rom(0, 5, 1, 50);
         x.rom(1, 5, 1, 51);
