@@ -702,7 +702,6 @@ public final class TileConsole {
         // and what they call goes to the memory without a step between.
         void step() {
             int waiting = ports.waiting();
-            boolean armedBefore = armed;
             time = 0;
             if (waiting != 0) {
                 halted = false;
@@ -713,6 +712,9 @@ public final class TileConsole {
                 passHalted();
                 return;
             } else {
+                // Nothing but EI and DI looks at IME in between, so that it may be 1 before what follows EI is done.
+                ime = ime || armed;
+                armed = false;
                 int i = fetch();
                 int y = i >> 3 & 7;
                 int z = i & 7;
@@ -731,7 +733,7 @@ public final class TileConsole {
                         break;
                 }
             }
-            finish(armedBefore);
+            finish();
         }
 
         // An instruction that is not done takes its time, but is not one of those done.
@@ -740,13 +742,9 @@ public final class TileConsole {
             ports.pass(1);
         }
 
-        private void finish(boolean armedBefore) {
+        private void finish() {
             if (locked) {
                 return;
-            }
-            if (armedBefore && armed) {
-                ime = true;
-                armed = false;
             }
             done++;
             cycles += time;
