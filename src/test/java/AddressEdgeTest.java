@@ -201,6 +201,8 @@ public final class AddressEdgeTest {
         Check.equal("SPRITES' end", 0, x.read(0xFE9F));
         Check.equal("SPRITES' beginning", 0, x.read(0xFE00));
         Check.equal("KEYS", 0xCF, x.read(0xFF00));
+        Check.equal("IE", 0, x.read(0xFFFF));
+        Check.equal("HIGH", 0, x.read(0xFF80) | x.read(0xFFFE));
     }
 
     // "below 0xFF80 and 0xFFFF: PORTS"

@@ -101,6 +101,8 @@ public final class PortEdgeTest {
             for (int[] a : asked) {
                 Check.put(x, 0xFF00, a[0]);
                 Check.equal("key " + key + ", KEYS " + a[0], 0xC0 | a[0] | a[1], x.read(0xFF00));
+                Check.put(x, 0xFF00, a[0] | 0xCF);
+                Check.equal("key " + key + ", KEYS' other bits 1", 0xC0 | a[0] | a[1], x.read(0xFF00));
             }
         }
         TileConsole x = idle();

@@ -28,6 +28,8 @@ public final class ProcessorEdgeTest {
         logic();
         decimalSum();
         decimalDifference();
+        flagInstructions();
+        restarts();
         accumulatorShiftsHaveNoZero();
         shifts();
         bits();
@@ -76,6 +78,15 @@ public final class ProcessorEdgeTest {
             x.set(Check.F, 0);
             x.run(1);
             flags("15 + 1, r " + r, H, x);
+            Check.load(x, 0x04 + 8 * r, 0x05 + 8 * r, 0x05 + 8 * r);
+            x.set(PLACES[r], 16);
+            x.run(1);
+            flags("16 + 1, r " + r, 0, x);
+            x.run(1);
+            flags("17 - 1, r " + r, N, x);
+            x.set(PLACES[r], 1);
+            x.run(1);
+            flags("1 - 1, r " + r, Z | N, x);
         }
         TileConsole x = Check.program(0x34, 0x35);
         Check.setPair(x, Check.H, HL);
@@ -425,6 +436,28 @@ public final class ProcessorEdgeTest {
         combine("DAA N, 0x65, H, C", 0x27, 0x65, 0, N | H | C, 0xFF, N | C);
     }
 
+    // "5 CPL (N, H 1), 6 SCF (N, H 0, C 1), 7 CCF (N, H 0, C turned)"
+    private static void flagInstructions() {
+        combine("CPL of 0", 0x2F, 0, 0, 0, 255, N | H);
+        combine("CPL of 255 to 0", 0x2F, 255, 0, Z | N | H | C, 0, Z | N | H | C);
+        combine("CPL is nothing to Z", 0x2F, 255, 0, 0, 0, N | H);
+        combine("SCF without flags", 0x37, 0, 0, 0, 0, C);
+        combine("SCF with all flags", 0x37, 1, 0, 0xF0, 1, Z | C);
+        combine("CCF without flags", 0x3F, 0, 0, 0, 0, C);
+        combine("CCF with all flags", 0x3F, 1, 0, 0xF0, 1, Z);
+    }
+
+    // "RST: call of 8 y": the first and the last
+    private static void restarts() {
+        for (int y = 0; y < 8; y += 7) {
+            TileConsole x = Check.program(0xC7 + 8 * y);
+            x.set(Check.SP, 0xC300);
+            Check.equal("RST " + y, 4, x.run(1));
+            Check.equal("RST " + y + ": PC", 8 * y, x.register(Check.PC));
+            Check.equal("RST " + y + ": pushed", 0xC001, Check.word(x, 0xC2FE));
+        }
+    }
+
     // "0 RLCA, 1 RRCA, 2 RLA, 3 RRA (as CB, Z 0)"
     private static void accumulatorShiftsHaveNoZero() {
         for (int y = 0; y < 4; y++) {
@@ -459,6 +492,7 @@ public final class ProcessorEdgeTest {
         shift("SRA of 0x80", 5, 0x80, C, 0xC0, 0);
         shift("SWAP of 0xF0", 6, 0xF0, 0xF0, 0x0F, 0);
         shift("SWAP of 0, C", 6, 0, C, 0, Z);
+        shift("SWAP of 255, C", 6, 255, C, 255, 0);
         shift("SRL of 1", 7, 1, C, 0, Z | C);
         shift("SRL of 0x80", 7, 0x80, C, 0x40, 0);
     }
@@ -535,6 +569,8 @@ public final class ProcessorEdgeTest {
         x.run(1);
         Check.equal("then the interrupt", 0x40, x.register(Check.PC));
         Check.equal("IME", 0, x.count(Check.IME));
+        x.run(1);
+        Check.equal("EI is done with", 0, x.count(Check.IME));
     }
 
     // "EI (if IME is 0": with IME 1 an interrupt right behind it leaves IME 0.

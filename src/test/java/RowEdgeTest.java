@@ -136,6 +136,8 @@ public final class RowEdgeTest {
     private static void windowFromWx() {
         TileConsole x = painted(0xF1);
         Check.put(x, 0x9C00, 3);
+        // The WINDOW has no column before its first.
+        Check.put(x, 0x9C1F, 3);
         int[][] asked = {{0, 0, 1}, {6, 0, 7}, {7, 0, 8}, {8, 1, 8}, {158, 151, 8}, {159, 152, 8}, {160, 153, 7}, {166, 159, 1}};
         for (int[] a : asked) {
             Check.put(x, WX, a[0]);
